@@ -369,19 +369,29 @@ public final class SoleWear {
 
     public int lay(int slot, int thing, int k) {
         Slot s = slotOf(slot);
-        if (s == null || thing < HOLDS_NOTHING || thing > HOLDS_NUMBER) return BAD;
-        Row row = sheetOf(k);
-        if (thing == HOLDS_DANCER && !isDancer(k)) return BAD;
-        if (thing == HOLDS_SHEET && row == null) return BAD;
-        if (thing == HOLDS_SHEET && row != null && row.isMissing()) return NOTHING;
+        if (s == null) return BAD;
         int before = s.thing;
-        s.thing = thing;
-        if (thing == HOLDS_DANCER) {
-            s.kind = now.kind[k];
-            s.sole = now.sole[k];
+        switch (thing) {
+            case HOLDS_NOTHING:
+                break;
+            case HOLDS_DANCER:
+                if (!isDancer(k)) return BAD;
+                s.kind = now.kind[k];
+                s.sole = now.sole[k];
+                break;
+            case HOLDS_SHEET:
+                Row row = sheetOf(k);
+                if (row == null) return BAD;
+                if (row.isMissing()) return NOTHING;
+                s.row.become(row);
+                break;
+            case HOLDS_NUMBER:
+                s.number = k;
+                break;
+            default:
+                return BAD;
         }
-        if (thing == HOLDS_SHEET && row != null) s.row.become(row);
-        if (thing == HOLDS_NUMBER) s.number = k;
+        s.thing = thing;
         return before;
     }
 

@@ -313,6 +313,26 @@ public final class PromiseTest {
         due("the hour", x.count(1), 3);
     }
 
+    private static void twelveDancers() {
+        SoleWear x = ring();
+        for (int d = 0; d < 12; d++) x.dancer(0, 0, 100 + d, 1);
+        due("hours(1)", x.hours(1), 12);
+        due("at(1)", x.at(1), 0b111111111111);
+        due("soles", x.house(3), 1200 + 66 - 12);
+        due("barefoot", x.house(4), 0);
+        due("behind(100, 2)", x.behind(100, 2), 0b11);
+        due("behind(1, 14)", x.behind(1, 14), 2);
+        due("post(1, 1)", x.post(1, 1), 12);
+        due("meets", x.meets(0, 11, 0), 0);
+        due("mended", x.mended(1, 1), 1200 + 66 - 12);
+        row(x, 0, 0, 999);
+        due("whose", x.whose(0, 0), 11);
+        due("whose", x.whose(0, 1), 999 - 110);
+        x.keep();
+        tellAll(x, 1200 + 66 - 24, 0);
+        due("check", x.check(1), 0);
+    }
+
     private static void theLastHour() {
         SoleWear x = ring();
         x.room(0, 1, 0);
@@ -365,6 +385,7 @@ public final class PromiseTest {
 
     private static void behind() {
         SoleWear x = ring();
+        due("behind(0, 3) with no dancers", x.behind(0, 3), BAD);
         x.dancer(0, 0, 8, 1);
         x.dancer(2, 1, 7, 2);
         x.watch(100);
@@ -421,6 +442,10 @@ public final class PromiseTest {
         x.dancer(0, 7, 9, 0);
         due("one who stays", x.post(3, 0), 7);
         due("one who stays", x.post(3, 1), 4);
+        for (int r = 0; r < 10; r++) {
+            x.set(1, 1, r);
+            due("one who stays at " + r, x.post(60, 0), r);
+        }
         due("one who stays", x.post(60, 1), 66);
         int[][] bad = {{0, 0}, {61, 0}, {-1, 0}, {1, -1}, {1, 2}};
         for (int[] b : bad) due("post bad", x.post(b[0], b[1]), BAD);
@@ -597,6 +622,16 @@ public final class PromiseTest {
         due("bytes by order", x.feed(0x77656172, 0x20662b73, 0x2a642020), 12);
         due("text", x.text(), 0);
         due("pieces", x.textTold(0, 1), 3);
+        // What trim cuts off is gone, from the midst of a word as well.
+        feed(x, "wear f*12345");
+        due("trim", x.trim(11), 11);
+        due("text", x.text(), 1);
+        feed(x, "wear fsd");
+        due("trim", x.trim(6), 6);
+        due("text", x.text(), 2);
+        feed(x, "wear f");
+        due("trim", x.trim(4), 4);
+        due("text", x.text(), -104);
     }
 
     private static void fault(SoleWear x, String words, int place) {
@@ -1069,7 +1104,7 @@ public final class PromiseTest {
         about = "promises 11, 12"; roundAndTo();
         about = "promise 13"; deal();
         about = "promise 14"; seed();
-        about = "promise 15"; hours(); theLastHour();
+        about = "promise 15"; hours(); twelveDancers(); theLastHour();
         about = "promise 16"; house();
         about = "promise 17"; behind();
         about = "promise 18"; through();
